@@ -1,0 +1,82 @@
+/** Compares answers with those that are due, and counts what is wrong. */
+final class Check {
+    /** A call that may throw. */
+    interface Call {
+        void make() throws Exception;
+    }
+
+    private static int checks = 0;
+    private static int wrong = 0;
+
+    private Check() {
+    }
+
+    static void same(String what, long due, long answered) {
+        checks++;
+        if (due != answered) {
+            complain(what + ": due is " + due + ", answered " + answered);
+        }
+    }
+
+    static void sameText(String what, String due, String answered) {
+        checks++;
+        if (!due.equals(answered)) {
+            complain(what + ": due is \"" + due + "\", answered \"" + answered + "\"");
+        }
+    }
+
+    static void sameDouble(String what, double due, double answered) {
+        checks++;
+        if (Double.compare(due, answered) != 0) {
+            complain(what + ": due is " + due + ", answered " + answered);
+        }
+    }
+
+    static void yes(String what, boolean answered) {
+        checks++;
+        if (!answered) {
+            complain(what + ": due is true");
+        }
+    }
+
+    static void no(String what, boolean answered) {
+        checks++;
+        if (answered) {
+            complain(what + ": due is false");
+        }
+    }
+
+    /** The very class is asked for, so that what the machine throws does not pass. */
+    static void fails(String what, Class<? extends Exception> due, Call call) {
+        checks++;
+        try {
+            call.make();
+            complain(what + ": due is " + due.getSimpleName() + ", nothing was thrown");
+        } catch (Exception e) {
+            if (e.getClass() != due) {
+                complain(what + ": due is " + due.getSimpleName() + ", thrown was " + e);
+            }
+        }
+    }
+
+    /** Besides the exception, compares all that the queries tell before and after the call. */
+    static void failsUnchanged(
+            String what, Class<? extends Exception> due, SluiceChain chain, Call call) {
+        String before = Chains.stateOf(chain);
+        fails(what, due, call);
+        sameText(what + ", the state after it", before, Chains.stateOf(chain));
+    }
+
+    /** Ends the test with exit code 1 if an answer was wrong. */
+    static void finish(String test) {
+        System.out.println(test + ": " + checks + " checks, " + wrong + " wrong");
+        if (wrong > 0 || checks == 0) {
+            System.exit(1);
+        }
+    }
+
+    private static void complain(String text) {
+        wrong++;
+        System.out.println("WRONG " + text);
+    }
+}
