@@ -100,7 +100,8 @@ public final class BasinsTest {
         chain.setAutomatic(0, 7);
         for (int basin : new int[] {-1, 2, 5, Integer.MIN_VALUE, Integer.MAX_VALUE}) {
             Check.failsUnchanged("no such basin", INDEX, chain, () -> chain.setGate(basin, 1));
-            Check.failsUnchanged("no such basin first", INDEX, chain, () -> chain.setGate(basin, 6));
+            Check.failsUnchanged("no such basin first", INDEX, chain,
+                    () -> chain.setGate(basin, 6));
         }
         for (int opening : new int[] {-1, 6, Integer.MIN_VALUE, Integer.MAX_VALUE}) {
             Check.failsUnchanged("opening", ARGUMENT, chain, () -> chain.setGate(1, opening));

@@ -115,7 +115,8 @@ public final class ModelTest {
     }
 
     private String command() {
-        String basin = next(10) == 0 ? "" + next(10) : "" + next(Math.max(1, model.state.basins.size()));
+        int basins = Math.max(1, model.state.basins.size());
+        String basin = "" + next(next(10) == 0 ? 10 : basins);
         return switch (next(8)) {
             case 0 -> "basin " + (10 + next(90)) + " " + next(4) + " " + next(100);
             case 1 -> "gate " + basin + " " + next(6);
@@ -259,7 +260,7 @@ public final class ModelTest {
                 flow = 4 * opening > level ? level : 4 * opening;
                 later.add(pool.after(level - flow, opening));
             }
-            List<Integer> rest = forecast.isEmpty() ? forecast : forecast.subList(1, forecast.size());
+            List<Integer> rest = forecast.subList(forecast.isEmpty() ? 0 : 1, forecast.size());
             return new State(later, List.copyOf(rest), time + 1, river + flow);
         }
 
@@ -349,8 +350,9 @@ public final class ModelTest {
                 }
                 case "restore" -> restore();
                 case "writeChain" -> write(chainLine());
-                case "writeForecast" -> write(state.forecast().toString().replaceAll("[\\[\\] ]", ""));
-                case "outputAt" -> n[0] < 0 || n[0] >= line.length() ? INDEX : "" + line.charAt(n[0]);
+                case "writeForecast" -> write(forecastLine());
+                case "outputAt" -> within(n[0], 0, line.length() - 1)
+                        ? "" + line.charAt(n[0]) : INDEX;
                 case "errorPosition" -> errorPosition;
                 case "failedCommand" -> failedCommand;
                 default -> ask(parts[0], n[0], n[1]);
@@ -396,6 +398,10 @@ public final class ModelTest {
             return String.join(" ", parts);
         }
 
+        private String forecastLine() {
+            return state.forecast().toString().replaceAll("[\\[\\] ]", "");
+        }
+
         private String run() {
             String program = text.toString();
             text.setLength(0);
@@ -407,7 +413,8 @@ public final class ModelTest {
             String[] commands = program.split(";");
             for (int i = 0; i < commands.length; i++) {
                 String[] parts = (commands[i] + " 0 0 0").split(" ");
-                String answer = change(parts[0], number(parts[1]), number(parts[2]), number(parts[3]));
+                String answer =
+                        change(parts[0], number(parts[1]), number(parts[2]), number(parts[3]));
                 if (!Character.isDigit(answer.charAt(0))) {
                     state = before;
                     failedCommand = "" + i;
@@ -628,11 +635,12 @@ public final class ModelTest {
             for (int i = 0; i < state.basins().size(); i++) {
                 ranks.add(i);
             }
-            // 99 times 98 is the greatest product of two capacities, so this can't round wrongly.
+            // Different quotients differ by at least 1 / (99 * 98), far more than the limit below.
             ranks.sort((i, j) -> {
                 Pool p = state.basins().get(i);
                 Pool q = state.basins().get(j);
-                double difference = (double) q.level() / q.capacity() - (double) p.level() / p.capacity();
+                double difference =
+                        (double) q.level() / q.capacity() - (double) p.level() / p.capacity();
                 return Math.abs(difference) < 1e-6 ? i - j : difference < 0 ? -1 : 1;
             });
             return ranks;
@@ -643,7 +651,8 @@ public final class ModelTest {
             for (Pool pool : state.basins()) {
                 sum += (double) pool.level() / (double) pool.capacity();
             }
-            return state.basins().isEmpty() ? ARITHMETIC : "" + sum / (double) state.basins().size();
+            int count = state.basins().size();
+            return count == 0 ? ARITHMETIC : "" + sum / (double) count;
         }
 
         private String floodShare() {

@@ -18,6 +18,7 @@ public final class ProgramsTest {
         numbersOfOneAndTwoDigits();
         manyCommands();
         errorPositions();
+        shorterTexts();
         aWrongProgramChangesNothing();
         failingCommands();
         aFailingProgramChangesNothing();
@@ -56,7 +57,8 @@ public final class ProgramsTest {
         Check.same("water and time", 2, Chains.run(chain, "pour 0 11;step 2"));
         Check.same("time", 2, chain.time());
         Check.same("one amount is left", 1, chain.forecastLength());
-        Check.sameText("14 flow on to 9, 8 flow out at once", "0/40|5 15/25:0~12", Chains.chainLine(chain));
+        Check.sameText("14 flow on to 9, 8 flow out at once", "0/40|5 15/25:0~12",
+                Chains.chainLine(chain));
         Check.same("clear", 1, Chains.run(chain, "clear"));
         Check.same("no forecast", 0, chain.forecastLength());
         Check.same("empty afterwards", 1, chain.append('c'));
@@ -88,7 +90,8 @@ public final class ProgramsTest {
             "basin 1", "basin 10 ", "basin 100", "basin 10 x", "basin 10 1", "basin 10 12",
             "basin 10 1 ", "basin 10 1 123", "basin 10;", "basin x", "basin10",
             "gate 0", "gate 0 ", "gate 0 12", "gate 01 2", "gate ;", "auto 0 100", "auto 0", "autp",
-            "hand", "hand ", "hand x", "hand 10", "rain -1", "rain 5;", "rain 5;;", "rain 5; rain 5",
+            "hand", "hand ", "hand x", "hand 10", "rain -1", "rain 5;", "rain 5;;",
+            "rain 5; rain 5",
             "rain 5 ", "rain", "clear ", "clearx", "clear;", "clear5", "cleax", "pour 0 5,",
             "pour 0  5", "step 5;step", "step 5;step ", "step 5;stop 5", "step 5;step 5;q",
             "step 555", "rain 5\n", "rain \u0663", "rain \uff15", "\uffff", "\0", "step 5\0",
@@ -121,6 +124,20 @@ public final class ProgramsTest {
         Check.same("error position of <" + text + ">", due, chain.errorPosition());
         Check.fails("a wrong text is not a failed command", NONE, chain::failedCommand);
         Check.same("the buffer after <" + text + ">", 1, chain.append('s'));
+    }
+
+    /** What an earlier text left behind is no part of the next one. */
+    private static void shorterTexts() {
+        SluiceChain chain = new SluiceChain();
+        Chains.run(chain, "rain 19;step 12;clear");
+        String[] texts = {"r", "rain", "rain ", "rain 1;", "rain 19;step", "rain 19;step 12;clea"};
+        for (String text : texts) {
+            Chains.type(chain, text);
+            Check.fails("a part of an earlier text", ARGUMENT, chain::run);
+            Check.same("position of <" + text + ">", text.length(), chain.errorPosition());
+        }
+        Check.same("a shorter number", 1, Chains.run(chain, "rain 1"));
+        Check.same("is not the earlier one", 1, chain.rainAt(0));
     }
 
     private static void aWrongProgramChangesNothing() {
@@ -183,7 +200,7 @@ public final class ProgramsTest {
     private static void aFailingProgramChangesNothing() {
         SluiceChain chain = prepared();
         chain.setAutomatic(1, 5);
-        Chains.type(chain, "pour 0 5;step 3;clear;basin 20 1 1;gate 0 3;hand 1;hand 1");
+        Chains.type(chain, "step 3;clear;basin 20 1 1;auto 3 1;pour 3 9;gate 0 3;hand 0");
         Check.failsUnchanged("the last fails", FAILED, chain, chain::run);
         Check.same("the last", 6, chain.failedCommand());
         chain.undo();

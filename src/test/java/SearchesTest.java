@@ -20,6 +20,7 @@ public final class SearchesTest {
         planOfFourSteps();
         plansWrongly();
         endangered();
+        freshSearches();
         protection();
         protectionOfBigFloods();
         protectionWithoutSteps();
@@ -179,6 +180,21 @@ public final class SearchesTest {
         Check.same("none without basins", 0, new SluiceChain().endangered(30));
     }
 
+    /** Each search is asked first, so that none can lean on another. */
+    private static void freshSearches() {
+        SluiceChain chain = new SluiceChain();
+        for (int i = 0; i < 5; i++) {
+            chain.addBasin(10 + i, 1, 10 + i);
+        }
+        chain.addRain(20);
+        Check.same("bags for five", 10 + 9 + 8 + 7 + 6, chain.bagsForAll(1));
+        Check.same("five endangered", 5, chain.endangered(1));
+        checkProtection("all five", chain, 40, 1, 60);
+        checkProtection("all but the one of least value", chain, 39, 1, 50);
+        Check.same("by table at once", 5, beforeTheFlood().bestProtection(3, 1));
+        Check.same("by sets at once", 5, beforeTheFlood().bestProtectionBySets(3, 1));
+    }
+
     private static void protection() {
         SluiceChain chain = beforeTheFlood();
         String before = Chains.stateOf(chain);
@@ -190,7 +206,8 @@ public final class SearchesTest {
             checkProtection("with " + row[0] + " bags", chain, row[0], 1, row[1]);
             checkProtection("with " + row[0] + " bags, later", chain, row[0], 30, row[1]);
         }
-        Check.same("bags for all", 13, chain.bagsForAll(1));
+        Check.same("bags for all", 13, beforeTheFlood().bagsForAll(1));
+        Check.same("bags for all, later", 13, beforeTheFlood().bagsForAll(30));
         Check.sameText("a search changes nothing", before, Chains.stateOf(chain));
         chain.addRain(1);
         Check.same("bags for all of two steps", 17, chain.bagsForAll(2));

@@ -14,6 +14,8 @@ public final class UndoTest {
         callsThatChangeNothing();
         otherCallsAreNoChangingCalls();
         undoneBasinsLeaveNoTrace();
+        basinsThatWentAtOnceLeaveNoTrace();
+        restoreOfADifferentChain();
         undoOfAForecast();
         saveAndRestore();
         theLastSaveCounts();
@@ -136,6 +138,42 @@ public final class UndoTest {
         chain.addBasin(30, 1, 2);
         Check.sameText("a fresh basin", "time 0 stored 0 accounts 0 river 0 forecast"
                 + " [0 30 1 2 0 -1 0 0]", Chains.stateOf(chain));
+    }
+
+    /** One call takes away the basin together with all that happened to it. */
+    private static void basinsThatWentAtOnceLeaveNoTrace() {
+        String program = "basin 10 3 9;pour 0 9;rain 20;gate 0 1;step 1;auto 0 5";
+        SluiceChain undone = new SluiceChain();
+        Chains.run(undone, program);
+        undone.undo();
+        checkFreshBasin("after undo", undone);
+        SluiceChain refused = new SluiceChain();
+        Chains.type(refused, program.replace("pour 0 9", "pour 0 8").replace("auto 0 5", "hand 0"));
+        Check.fails("failing", UnsupportedOperationException.class, refused::run);
+        checkFreshBasin("after a program that failed", refused);
+        SluiceChain restored = new SluiceChain();
+        restored.save();
+        Chains.run(restored, program);
+        restored.restore();
+        checkFreshBasin("after restore", restored);
+    }
+
+    private static void checkFreshBasin(String what, SluiceChain chain) {
+        Check.same(what, 0, chain.addBasin(30, 1, 2));
+        Check.sameText(what, "time 0 stored 0 accounts 0 river 0 forecast [0 30 1 2 0 -1 0 0]",
+                Chains.stateOf(chain));
+    }
+
+    /** The basins of the two chains differ in all that a basin has. */
+    private static void restoreOfADifferentChain() {
+        SluiceChain chain = new SluiceChain();
+        Chains.run(chain, "basin 10 3 9;pour 0 9;rain 20;gate 0 1;step 1;auto 0 5");
+        String before = Chains.stateOf(chain);
+        chain.save();
+        chain.undo();
+        Chains.run(chain, "basin 77 1 44;gate 0 4;pour 0 33");
+        chain.restore();
+        Check.sameText("the saved chain", before, Chains.stateOf(chain));
     }
 
     private static void undoOfAForecast() {

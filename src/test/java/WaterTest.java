@@ -29,9 +29,11 @@ public final class WaterTest {
         storedAndAccounts();
         meanFill();
         floodShare();
+        floodShareOfFiveBasins();
         levelAfter();
         spillOf();
         stepsUntilFlood();
+        floodAtTheHorizon();
         predictionsWrongly();
         Check.finish("WaterTest");
     }
@@ -271,6 +273,17 @@ public final class WaterTest {
         Check.sameDouble("the mean of three", sum / 3.0, chain.meanFill());
     }
 
+    private static void floodShareOfFiveBasins() {
+        SluiceChain chain = new SluiceChain();
+        for (int i = 0; i < 5; i++) {
+            chain.addBasin(10, i == 2 ? 0 : 3, 0);
+        }
+        chain.addRain(20);
+        chain.addRain(1);
+        chain.advance(7);
+        Check.sameDouble("eight in seven steps", 8.0f / 7.0f, chain.floodShare());
+    }
+
     private static void floodShare() {
         SluiceChain chain = new SluiceChain();
         Check.fails("time 0", ARITHMETIC, chain::floodShare);
@@ -333,6 +346,26 @@ public final class WaterTest {
         chain.advance(30);
         Check.fails("nothing more comes", NONE, chain::stepsUntilFlood);
         Check.fails("no basins", NONE, () -> new SluiceChain().stepsUntilFlood());
+    }
+
+    /** 4 units a step; the second basin keeps 24 of them first, the third can hold 99. */
+    private static void floodAtTheHorizon() {
+        SluiceChain chain = new SluiceChain();
+        chain.addBasin(99, 1, 0);
+        chain.addBasin(50, 0, 0);
+        chain.addBasin(99, 0, 0);
+        chain.setGate(0, 1);
+        chain.setAutomatic(1, 24);
+        chain.pour(0, 50);
+        chain.pour(0, 49);
+        for (int i = 0; i < 12; i++) {
+            chain.addRain(4);
+        }
+        Check.fails("in 31 steps", NONE, chain::stepsUntilFlood);
+        chain.advance(1);
+        Check.same("in 30 steps", 30, chain.stepsUntilFlood());
+        Check.same("as advance finds it", 0, chain.advance(29));
+        Check.same("as advance finds it", 1, chain.advance(1));
     }
 
     /** 15 units; 10 in the second and 4 in the third step; 4 flow on in each step. */
