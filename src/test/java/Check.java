@@ -7,8 +7,24 @@ final class Check {
 
     private static int checks = 0;
     private static int wrong = 0;
+    private static String test = "";
 
     private Check() {
+    }
+
+    /** From here on complaints name this test. */
+    static void begin(String name) {
+        test = name + ": ";
+    }
+
+    static int checks() {
+        return checks;
+    }
+
+    /** For what goes wrong without an answer. */
+    static void isWrong(String what) {
+        checks++;
+        complain(what);
     }
 
     static void same(String what, long due, long answered) {
@@ -77,6 +93,6 @@ final class Check {
 
     private static void complain(String text) {
         wrong++;
-        System.out.println("WRONG " + text);
+        System.out.println("WRONG " + test + text);
     }
 }
