@@ -5,11 +5,31 @@ final class Check {
         void make() throws Exception;
     }
 
+    /** Far more than any test needs. */
+    private static final long MOST_MILLISECONDS = 120_000;
+
     private static int checks = 0;
     private static int wrong = 0;
     private static String test = "";
 
     private Check() {
+    }
+
+    static {
+        Thread watch = new Thread(Check::stopWhatDoesNotEnd);
+        watch.setDaemon(true);
+        watch.start();
+    }
+
+    /** A broken class can make a call go on for hours, and a test should fail by that too. */
+    private static void stopWhatDoesNotEnd() {
+        try {
+            Thread.sleep(MOST_MILLISECONDS);
+            System.out.println("WRONG " + test + "it does not end");
+            Runtime.getRuntime().halt(1);
+        } catch (InterruptedException e) {
+            // Nothing interrupts this thread.
+        }
     }
 
     /** From here on complaints name this test. */

@@ -55,6 +55,12 @@ public final class EdgesOfPromises1To9Test {
         Check.sameText("the one after the other", told, Chains.stateOf(one));
         Check.sameText("its line", "20/20|2 9/30:2~6", Traces.lineOf(one));
         Check.same("its text", 2, one.run());
+        SluiceChain empty = new SluiceChain();
+        empty.save();
+        one.save();
+        empty.addRain(1);
+        empty.restore();
+        Check.same("what the other one has saved is not restored", 0, empty.basinCount());
     }
 
     // ---- 2: addBasin
@@ -125,6 +131,31 @@ public final class EdgesOfPromises1To9Test {
         Check.no("automatic", chain.isAutomatic(2));
         Check.same("spilled", 0, chain.spilled(2));
         Check.same("flooded", 0, chain.floodedSteps(2));
+    }
+
+    /** The basin that stood there before had water, an automatic gate, and a flood. */
+    static void promise2BasinInThePlaceOfAnUndoneOneIsEmpty() {
+        SluiceChain chain = new SluiceChain();
+        Chains.run(chain, "basin 10 3 9;gate 0 4;rain 20;step 1;auto 0 50");
+        chain.undo();
+        chain.addBasin(30, 0, 0);
+        checkFresh("after undo", chain);
+        SluiceChain restored = new SluiceChain();
+        restored.save();
+        Chains.run(restored, "basin 10 3 9;gate 0 4;rain 20;step 1;auto 0 50");
+        restored.restore();
+        restored.addBasin(30, 0, 0);
+        checkFresh("after restore", restored);
+        SluiceChain failed = new SluiceChain();
+        Chains.type(failed, "basin 10 3 9;gate 0 4;rain 20;step 1;auto 0 50;hand 1");
+        Check.fails("it fails", Edges.FAILED, failed::run);
+        failed.addBasin(30, 0, 0);
+        checkFresh("after a program that failed", failed);
+    }
+
+    private static void checkFresh(String what, SluiceChain chain) {
+        Check.sameText(what, "time 0 stored 0 accounts 0 river 0 forecast [0 30 0 0 0 -1 0 0]",
+                Chains.stateOf(chain));
     }
 
     static void promise2AddsTheBasinAtTheEnd() {

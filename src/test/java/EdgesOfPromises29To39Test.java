@@ -178,6 +178,9 @@ public final class EdgesOfPromises29To39Test {
         for (int steps = 1; steps <= 25; steps++) {
             Check.same("steps", steps, floodIn(steps).stepsUntilFlood());
         }
+        for (int gone = 1; gone <= 30; gone++) {
+            Check.same("gone " + gone, 31 - gone, States.steps(tooLate(), gone).stepsUntilFlood());
+        }
     }
 
     static void promise31FloodAfter30StepsIsFound() {
@@ -648,6 +651,38 @@ public final class EdgesOfPromises29To39Test {
         Check.yes("empty", States.empty().isConsistent());
         Check.yes("busy", States.busy().isConsistent());
         Check.yes("full", States.full().isConsistent());
+    }
+
+    static void promise39LevelAtTheCapacityIsConsistent() {
+        SluiceChain chain = States.holding(98);
+        Inside.add(chain, 1, "chain", "basins", "0", "level");
+        Inside.add(chain, 1, "chain", "poured");
+        Check.yes("99 of 99", chain.isConsistent());
+    }
+
+    static void promise39LevelAboveTheCapacityIsNotConsistent() {
+        for (int basin = 0; basin < 5; basin++) {
+            SluiceChain chain = States.full();
+            Inside.add(chain, 1, "chain", "basins", "" + basin, "level");
+            Inside.add(chain, 1, "chain", "poured");
+            Check.same("the ways agree", chain.stored(), chain.storedByAccounts());
+            Check.no("100 of 99 in basin " + basin, chain.isConsistent());
+        }
+    }
+
+    static void promise39AccountsThatDisagreeAreNotConsistent() {
+        for (String account : new String[] {"rained", "poured", "river"}) {
+            for (int amount : new int[] {1, -1}) {
+                SluiceChain chain = States.busy();
+                Inside.add(chain, amount, "chain", account);
+                Check.no(account + " is wrong by " + amount, chain.isConsistent());
+            }
+        }
+        SluiceChain chain = States.busy();
+        Inside.add(chain, 1, "chain", "basins", "1", "spilled");
+        Check.no("spilled is wrong", chain.isConsistent());
+        Inside.add(chain, -1, "chain", "river");
+        Check.yes("the mistakes make up for each other", chain.isConsistent());
     }
 
     static void promise39AllGatesAutomatic() {

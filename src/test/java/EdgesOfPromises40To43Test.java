@@ -182,6 +182,22 @@ public final class EdgesOfPromises40To43Test {
         });
     }
 
+    /** No place is free among the calls to undo, and none of them is lost. */
+    static void promise41RefusedRunLeavesEightCallsToUndo() {
+        checkRefused(Edges.ARGUMENT, () -> fullWith("basin 10 0 0;hand 4;step 5;stop"));
+        checkRefused(Edges.FAILED, () -> fullWith("hand 4;step 5;clear;basin 10 0 0"));
+        SluiceChain chain = fullWith("hand 0");
+        Check.fails("it fails", Edges.FAILED, chain::run);
+        Check.same("eight", 8, Chains.undoAll(chain));
+    }
+
+    private static SluiceChain fullWith(String text) {
+        SluiceChain chain = States.full();
+        chain.run();
+        Chains.type(chain, text);
+        return chain;
+    }
+
     static void promise41GrammarComesBeforeCommandsThatFail() {
         SluiceChain chain = new SluiceChain();
         Chains.type(chain, "hand 0;step 0;x");

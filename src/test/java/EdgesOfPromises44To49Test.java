@@ -322,6 +322,22 @@ public final class EdgesOfPromises44To49Test {
         Check.same("forecast", 0, chain.forecastLength());
     }
 
+    /** The basins before and after the call differ in all that a basin has. */
+    static void promise47ProgramOfAllCommandsIsUndone() {
+        SluiceChain chain = new SluiceChain();
+        Chains.run(chain, "basin 10 3 9;pour 0 9;rain 20;gate 0 1;step 1;auto 0 5");
+        String before = Chains.stateOf(chain);
+        chain.undo();
+        Chains.run(chain, "basin 77 1 44;pour 0 33;rain 3;rain 4;step 1");
+        String other = Chains.stateOf(chain);
+        chain.undo();
+        Chains.run(chain, "basin 10 3 9;pour 0 9;rain 20;gate 0 1;step 1;auto 0 5");
+        Check.sameText("carried out again", before, Chains.stateOf(chain));
+        Check.no("the other one", other.equals(before));
+        chain.undo();
+        Check.sameText("undone", Chains.stateOf(new SluiceChain()), Chains.stateOf(chain));
+    }
+
     static void promise47RefusedCallsCannotBeUndone() {
         SluiceChain chain = new SluiceChain();
         chain.addRain(1);
@@ -445,6 +461,18 @@ public final class EdgesOfPromises44To49Test {
         }
         chain.restore();
         Check.sameText("restored at once", before, Chains.stateOf(chain));
+    }
+
+    /** The basins before and after the call differ in all that a basin has. */
+    static void promise49RestoresAllOfTheChain() {
+        SluiceChain chain = new SluiceChain();
+        Chains.run(chain, "basin 10 3 9;pour 0 9;rain 20;gate 0 1;step 1;auto 0 5");
+        String before = Chains.stateOf(chain);
+        chain.save();
+        chain.undo();
+        Chains.run(chain, "basin 77 1 44;pour 0 33;rain 3;rain 4;step 2;gate 0 4");
+        chain.restore();
+        Check.sameText("restored", before, Chains.stateOf(chain));
     }
 
     static void promise49AfterwardsNoCallCanBeUndone() {

@@ -22,10 +22,7 @@ final class States {
         chain.setGate(0, 2);
         chain.pour(0, 17);
         chain.addRain(9);
-        Chains.type(chain, "clear;step 0");
-        Check.fails("a program that fails", Edges.FAILED, chain::run);
-        Chains.type(chain, "step 1;");
-        Check.fails("a text that is no program", Edges.ARGUMENT, chain::run);
+        storeErrors(chain);
         chain.addRain(4);
         chain.save();
         chain.addRain(20);
@@ -46,10 +43,12 @@ final class States {
 
     /**
      * Five basins with much water, the last with an automatic gate; twelve amounts of rain; eight
-     * calls to undo; a saved state; the longest line; a text of 60 characters.
+     * calls to undo; a saved state, a failed command, an error position, an output line and a text
+     * of 60 characters.
      */
     static SluiceChain full() {
         SluiceChain chain = fiveBasins();
+        storeErrors(chain);
         chain.save();
         for (int i = 0; i < 12; i++) {
             chain.addRain(20 - i);
@@ -61,6 +60,14 @@ final class States {
         chain.writeChain();
         Chains.type(chain, FULL_TEXT);
         return chain;
+    }
+
+    /** Stores the error position 7 and the failed command 1. */
+    static void storeErrors(SluiceChain chain) {
+        Chains.type(chain, "clear;step 0");
+        Check.fails("a program that fails", Edges.FAILED, chain::run);
+        Chains.type(chain, "step 1;");
+        Check.fails("a text that is no program", Edges.ARGUMENT, chain::run);
     }
 
     /** The basins of capacity 99 take no rain but for the first. */

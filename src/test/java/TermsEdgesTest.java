@@ -419,6 +419,26 @@ public final class TermsEdgesTest {
         Check.same("50 - 20 - 10", 20, open.leastSpill(0, 1));
     }
 
+    /** An opening below 0 would take water out of the basin that is too full. */
+    static void termsPlanChoosesNoOpeningBelow0() {
+        SluiceChain chain = States.basins(2);
+        chain.pour(1, 50);
+        chain.addRain(3);
+        Check.same("trying all plans", 3, chain.leastSpill(0, 1));
+        Check.same("leaving plans out", 3, chain.leastSpillByPruning(0, 1));
+        Check.same("opening", 0, chain.bestOpening(0, 1));
+    }
+
+    /** 24 units are too much; an opening of 6 would let all of them out. */
+    static void termsPlanChoosesNoOpeningAbove5() {
+        SluiceChain chain = States.oneBasin(10, 3);
+        chain.pour(0, 10);
+        chain.addRain(8);
+        Check.same("trying all plans", 4, chain.leastSpill(0, 1));
+        Check.same("leaving plans out", 4, chain.leastSpillByPruning(0, 1));
+        Check.same("opening", 5, chain.bestOpening(0, 1));
+    }
+
     /** With 5 and then 0 nothing is spilled; with one opening for both steps at least 12 units. */
     static void termsPlanChoosesAnewBeforeEachStep() {
         SluiceChain chain = new SluiceChain();
@@ -578,6 +598,28 @@ public final class TermsEdgesTest {
             Chains.type(chain, "clear;clear");
         }
         return chain;
+    }
+
+    static void termsChangingCallsLeaveTextErrorsAndLineAlone() {
+        checkStays("addBasin", chain -> chain.addBasin(10, 0, 0));
+        checkStays("addRain", chain -> chain.addRain(0));
+        checkStays("clearForecast", SluiceChain::clearForecast);
+        checkStays("advance", chain -> chain.advance(1));
+        checkStays("gates and water", chain -> {
+            chain.addBasin(10, 0, 0);
+            chain.pour(0, 1);
+            chain.setGate(0, 1);
+            chain.setAutomatic(0, 1);
+            chain.setManual(0);
+        });
+    }
+
+    static void termsProgramLeavesErrorsAndLineAlone() {
+        SluiceChain chain = savedEarly(true);
+        Check.same("commands", 2, chain.run());
+        Check.sameText("line", "3,4", Traces.lineOf(chain));
+        Check.same("error position", 4, chain.errorPosition());
+        Check.same("failed command", 0, chain.failedCommand());
     }
 
     private static void checkStays(String what, Edges.Call call) {
