@@ -304,6 +304,20 @@ public final class EdgesOfPromises29To39Test {
         Check.same("no water", 0, States.basins(5).leastSpill(2, 4));
     }
 
+    /** The plan tried last is 5 and 5, and lets out twice 20 units, though all plans are equal. */
+    static void promise32TriesPlansThatAreNotBetter() {
+        SluiceChain chain = States.holding(99);
+        Check.same("no spill", 0, chain.leastSpill(0, 2));
+        Check.same("level by the last plan", 59, levelByTheLastPlan(chain));
+    }
+
+    /** How far the search went is told by no call. */
+    private static int levelByTheLastPlan(SluiceChain chain) {
+        Check.same("both steps", chain.time() + 2,
+                Inside.read(chain, "plans", "tries", "0", "time"));
+        return Inside.read(chain, "plans", "tries", "0", "basins", "0", "level");
+    }
+
     static void promise33Takes1Step() {
         Check.same("30 - 20", 10, pouring().leastSpillByPruning(0, 1));
     }
@@ -374,6 +388,13 @@ public final class EdgesOfPromises29To39Test {
         States.rain(chain, 4, 20);
         checkPlans("all full", chain, 4, 4, 5 * 240 - 80, 5);
         checkPlans("the first gate only moves it", chain, 0, 4, 5 * 240, 0);
+    }
+
+    /** After 0 and 0 nothing is better; 0 and 5 is the last plan, because 1 begins as badly. */
+    static void promise33LeavesOutPlansThatBeginAsBadly() {
+        SluiceChain chain = States.holding(99);
+        Check.same("no spill", 0, chain.leastSpillByPruning(0, 2));
+        Check.same("level by the last plan", 79, levelByTheLastPlan(chain));
     }
 
     static void promise34Takes1Step() {
@@ -583,6 +604,12 @@ public final class EdgesOfPromises29To39Test {
         checkOnce(SluiceChain::bestProtection);
     }
 
+    /** Only values that no call can bring about tell the two ways from each other. */
+    static void promise36IsFoundByTheTable() {
+        SluiceChain chain = hugeValues(0, 9);
+        Check.same("the four are missed", 1_500_000_000, chain.bestProtection(20, 1));
+    }
+
     static void promise37Takes0To99Bags() {
         checkTakesBags(SluiceChain::bestProtectionBySets);
     }
@@ -609,6 +636,14 @@ public final class EdgesOfPromises29To39Test {
 
     static void promise37BasinIsChosenOnce() {
         checkOnce(SluiceChain::bestProtectionBySets);
+    }
+
+    /** See promise36IsFoundByTheTable. */
+    static void promise37IsFoundByTheSets() {
+        SluiceChain chain = hugeValues(0, 9);
+        int sumOfFour = 1_705_032_704;
+        Check.same("the four are found", sumOfFour, chain.bestProtectionBySets(20, 1));
+        Check.same("one bag is missing", 1_500_000_000, chain.bestProtectionBySets(19, 1));
     }
 
     // ---- 38: bagsForAll
@@ -683,6 +718,62 @@ public final class EdgesOfPromises29To39Test {
         Check.no("spilled is wrong", chain.isConsistent());
         Inside.add(chain, -1, "chain", "river");
         Check.yes("the mistakes make up for each other", chain.isConsistent());
+    }
+
+    /**
+     * So much rain comes in that the sum of two spills is below 0; then a plan that is cut off
+     * could have become better, and the two ways disagree. No call can bring this about.
+     */
+    static void promise39LeastSpillsIn2StepsThatDisagreeAreNotConsistent() {
+        Check.yes("rain in the first step", hugeRainAfter(0).isConsistent());
+        Check.no("rain in the second step", hugeRainAfter(1).isConsistent());
+        Check.yes("rain in the third step", hugeRainAfter(2).isConsistent());
+    }
+
+    static void promise39LeastSpillsOfAutomaticGatesAreLeftOut() {
+        SluiceChain chain = hugeRainAfter(1);
+        chain.setAutomatic(0, 99);
+        Check.no("the last gate is manual", chain.isConsistent());
+        chain.setAutomatic(1, 99);
+        Check.yes("no gate is manual", chain.isConsistent());
+    }
+
+    private static SluiceChain hugeRainAfter(int steps) {
+        SluiceChain chain = new SluiceChain();
+        chain.addBasin(99, 0, 0);
+        chain.addBasin(99, 0, 0);
+        States.pour(chain, 1, 60);
+        States.rain(chain, steps, 0);
+        chain.addRain(1);
+        Inside.add(chain, 1_200_000_000, "chain", "basins", "0", "catchment");
+        Inside.add(chain, 1_200_000_000, "chain", "basins", "1", "catchment");
+        return chain;
+    }
+
+    /**
+     * The values are so great that the sum of two or three of them is less than one, and that of
+     * four is more; the table, which adds one basin after the other, misses the four, and the two
+     * ways disagree. No call can bring this about.
+     */
+    static void promise39ProtectionsThatDisagreeAreNotConsistent() {
+        Check.no("20 bags for all four, 6 steps", hugeValues(5, 9).isConsistent());
+        Check.no("19 bags for all four", hugeValues(5, 8).isConsistent());
+        Check.yes("21 bags for all four", hugeValues(5, 10).isConsistent());
+        Check.no("spill in the first step", hugeValues(0, 9).isConsistent());
+        Check.yes("spill in the seventh step", hugeValues(6, 9).isConsistent());
+    }
+
+    /** Three basins that spill 5 units after these steps, and one that spills its level less 4. */
+    private static SluiceChain hugeValues(int dryStepsBefore, int levelOfTheLast) {
+        SluiceChain chain = new SluiceChain();
+        for (int i = 0; i < 4; i++) {
+            chain.addBasin(10, 1, 0);
+            chain.pour(i, i == 3 ? levelOfTheLast : 9);
+            Inside.add(chain, 1_500_000_000, "chain", "basins", "" + i, "value");
+        }
+        States.rain(chain, dryStepsBefore, 0);
+        chain.addRain(6);
+        return chain;
     }
 
     static void promise39AllGatesAutomatic() {
